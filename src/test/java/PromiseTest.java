@@ -205,6 +205,32 @@ public final class PromiseTest {
                 + "read() 2; " + Check.holding("10"));
     }
 
+    /** No array may be passed where the sequence has all its 240 symbols. */
+    private static void fullSequence() {
+        String text = "0011".repeat(60);
+        Check.script("a full sequence", Check.reading(text) + "write() 240; outputAt(239) 1; outputAt(240)" + INDEX + "shownAt(239) 2; occurrences(2) 60;"
+                + "locate(2) 3; firstInvalid() -1; firstRepeat() 4; firstMissing() -1; isUniversal() false; shownBits(0) 15; longestRun() 4;"
+                + "longestRunStart() 0; distinctSymbols() 2; compress() 2; rotate(239) 0; symbolAt(0) 1; symbolAt(239) 1; rotateToLowest() 1; reverse() 240;"
+                + "symbolAt(0) 1; symbolAt(239) 0; complement() 240; exchange(0, 1) 240; extendGreedily() 0; save() 240; restore() 240; clear() 240; undo() 240;"
+                + "search(6) 6; undo() 240; useCircuit() 2; undo() 240; setSymbol(239, 0) 0; read() 0");
+        Check.script("a full sequence of one run", "setFamily(0, 5, 3) throws IllegalArgumentException; setFamily(1, 5, 8) 120; "
+                + Check.reading("01234567".repeat(30)) + "firstInvalid() -1; longestRun() 5; longestRunStart() 3; extendGreedily() 0; rotateToLowest() 0; length() 240");
+    }
+
+    /** Rows that are used again hold nothing of the call before. */
+    private static void usedAgain() {
+        Check.script("search after a search that failed", "setFamily(3, 2, 2) 1; search(9)" + NOTHING + "setFamily(0, 2, 2) 4; search(6) 6; "
+                + Check.holding("0011") + "search(5)" + STATE + "search(6) 6");
+        Check.script("extendGreedily again", "extendGreedily() 5; clear() 5; extendGreedily() 5; setFamily(0, 1, 3) 3; extendGreedily() 3; clear() 3;"
+                + "extendGreedily() 3");
+        Check.script("useCircuit after one that failed", "setFamily(1, 3, 3) 6; useCircuit()" + NOTHING + "setFamily(1, 3, 6) 6; useCircuit() 6; isUniversal() true;"
+                + "setFamily(1, 1, 1) 1; useCircuit() 1; " + Check.holding("0"));
+        Check.script("walks after other walks", "setFamily(2, 3, 3) 6; distance(0, 3) 1; componentOf(1) 1; componentOf(3) 0; componentOf(5) 1; componentOf(4) 0;"
+                + "distance(5, 1) 2; distance(1, 5) 1");
+        Check.script("a graph after subsets", "setFamily(2, 3, 3) 6; setFamily(3, 2, 8) 28; shownBits(0) 0; append(7) 1; append(0) 2; shownAt(0) 6; setFamily(0, 3, 2) 8;"
+                + "componentOf(3) 0; circuitEdge(7) 4; circuitCount() 2; setFamily(0, 2, 3) 9; circuitCount() 24; setFamily(0, 3, 2) 8; circuitCount() 2");
+    }
+
     public static void main(String[] args) {
         families();
         symbols();
@@ -214,6 +240,8 @@ public final class PromiseTest {
         searches();
         graphs();
         savings();
+        fullSequence();
+        usedAgain();
         Check.end("PromiseTest");
     }
 }
