@@ -513,8 +513,8 @@ public final class UniversalCycles {
     }
 
     /**
-     * All sequences of one kind and length, as codes in ascending order. A code packs numbers below 8 into an int, three
-     * bits each, the first number highest: so the order of codes of one length is the lexicographic order.
+     * All sequences of one kind and length, as codes in ascending order. A code packs numbers below 8 into an int,
+     * three bits each, the first number highest: so the order of codes of one length is the lexicographic order.
      */
     private static final class Codes {
         static final int BITS = 3;
@@ -525,11 +525,11 @@ public final class UniversalCycles {
         int size;
 
         static int numberAt(int code, int places, int i) {
-            return code >> BITS * (places - 1 - i) & GREATEST;
+            return (code >> (BITS * (places - 1 - i))) & GREATEST;
         }
 
         static int withLast(int code, int number) {
-            return code << BITS | number;
+            return (code << BITS) | number;
         }
 
         static int withoutLast(int code) {
@@ -537,13 +537,13 @@ public final class UniversalCycles {
         }
 
         static int withoutFirst(int code, int places) {
-            return code & (1 << BITS * (places - 1)) - 1;
+            return code & ((1 << (BITS * (places - 1))) - 1);
         }
 
         static int numberMask(int code, int places) {
             int mask = 0;
             for (int i = 0; i < places; i++) {
-                mask |= 1 << (code >> BITS * i & GREATEST);
+                mask |= 1 << ((code >> (BITS * i)) & GREATEST);
             }
             return mask;
         }
@@ -562,7 +562,7 @@ public final class UniversalCycles {
         static int ascending(int mask) {
             int code = 0;
             for (int number = 0; number <= GREATEST; number++) {
-                if ((mask >> number & 1) == 1) {
+                if (((mask >> number) & 1) == 1) {
                     code = withLast(code, number);
                 }
             }
@@ -629,7 +629,7 @@ public final class UniversalCycles {
             if (kind < WORDS || kind > SUBSETS || places < 1 || places > MOST_PLACES) {
                 return false;
             }
-            if (symbols < 1 || symbols > MOST_SYMBOLS || kind != WORDS && places > symbols) {
+            if (symbols < 1 || symbols > MOST_SYMBOLS || (kind != WORDS && places > symbols)) {
                 return false;
             }
             return sizeOf(kind, places, symbols) <= MOST_ELEMENTS;
