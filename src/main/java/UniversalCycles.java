@@ -604,7 +604,7 @@ public final class UniversalCycles {
         int indexOf(int code) {
             int low = 0;
             int high = size - 1;
-            while (low <= high) {
+            for (int turn = 0; turn < MOST_ELEMENTS && low <= high; turn++) {
                 int middle = (low + high) >> 1;
                 if (codes[middle] == code) {
                     return middle;

@@ -1,5 +1,7 @@
 import java.lang.reflect.InvocationTargetException;
 import java.lang.reflect.Method;
+import java.util.ArrayList;
+import java.util.List;
 
 /** Runs calls that are written as in the document, "append(1) 1; undo() 0; undo() throws NoSuchElementException". */
 final class Check {
@@ -11,18 +13,25 @@ final class Check {
 
     /** A script on a new object. */
     static void script(String title, String calls) {
-        UniversalCycles object = new UniversalCycles();
-        script(title, object, calls);
+        Bench bench = new Bench();
+        for (String row : rows(calls)) {
+            String call = callOf(row);
+            due(title, call, bench.ask(call), row.substring(call.length()).trim());
+        }
     }
 
-    static void script(String title, UniversalCycles object, String calls) {
+    static List<String> rows(String calls) {
+        List<String> rows = new ArrayList<>();
         for (String row : calls.split(";")) {
-            String text = row.trim();
-            if (!text.isEmpty()) {
-                int end = text.indexOf(") ") + 1;
-                due(title, text.substring(0, end), answer(object, text.substring(0, end)), text.substring(end).trim());
+            if (!row.isBlank()) {
+                rows.add(row.trim());
             }
         }
+        return rows;
+    }
+
+    static String callOf(String row) {
+        return row.substring(0, row.indexOf(") ") + 1);
     }
 
     static void due(String title, String call, String got, String want) {

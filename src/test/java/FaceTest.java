@@ -13,7 +13,6 @@ import java.util.regex.Pattern;
 
 /** The class has the document's face and nothing beside it, and the file keeps to what of LANGUAGE.md a text can tell. */
 public final class FaceTest {
-    private static final Path DOCUMENT = Path.of("../shared/DOC.md");
     private static final Path SOURCE = Path.of("src/main/java/UniversalCycles.java");
 
     private static String signature(Method method) {
@@ -33,7 +32,7 @@ public final class FaceTest {
     private static TreeSet<String> promised() throws IOException {
         TreeSet<String> result = new TreeSet<>();
         Matcher matcher = Pattern.compile("(?m)^    public ((?:int|long|boolean|char) \\w+\\()([^)]*)(\\)[^;]*);")
-                .matcher(Files.readString(DOCUMENT));
+                .matcher(Files.readString(Document.PATH));
         while (matcher.find()) {
             result.add(matcher.group(1) + matcher.group(2).replaceAll("(\\w+) \\w+", "$1") + matcher.group(3));
         }
