@@ -1,6 +1,8 @@
 /** Promises 39 to 41: circuitCount, circuitEdge, useCircuit. */
 final class CircuitBounds extends Bounds {
     private static final String SUBSETS = "setFamily(3, 2, 4) 6; " + LIVED;
+    /** The circuit of the family before is missing, too: that must not be what is told. */
+    private static final String SUBSETS_AFTER_NO_CIRCUIT = "setFamily(2, 3, 3) 6; " + SUBSETS;
     private static final String NO_CIRCUIT = "setFamily(2, 3, 3) 6; " + LIVED;
 
     private static final String TOO_MANY_VERTICES = "Throws `UnsupportedOperationException` if the kind is 3, or if the graph has more than "
@@ -9,6 +11,7 @@ final class CircuitBounds extends Bounds {
     @Sentence(TOO_MANY_VERTICES)
     static void promise39KindIs3() {
         refused(UNSUPPORTED, SUBSETS, "circuitCount()");
+        refused(UNSUPPORTED, SUBSETS_AFTER_NO_CIRCUIT, "circuitCount()");
         refused(UNSUPPORTED, "setFamily(3, 1, 1) 1; ", "circuitCount()");
         holds("setFamily(2, 1, 1) 1; circuitCount() 1; ");
     }
@@ -59,6 +62,7 @@ final class CircuitBounds extends Bounds {
     static void promise40KindIs3() {
         refused(UNSUPPORTED, SUBSETS, each("circuitEdge(#)", 0, 5));
         refused(UNSUPPORTED, SUBSETS, each("circuitEdge(#)", -1, 6));
+        refused(UNSUPPORTED, SUBSETS_AFTER_NO_CIRCUIT, each("circuitEdge(#)", 0, 6));
         holds("setFamily(2, 1, 4) 4; circuitEdge(3) 3; ");
     }
 
@@ -100,6 +104,7 @@ final class CircuitBounds extends Bounds {
     @Sentence("Throws `UnsupportedOperationException` if the kind is 3")
     static void promise41KindIs3() {
         refused(UNSUPPORTED, SUBSETS, "useCircuit()");
+        refused(UNSUPPORTED, SUBSETS_AFTER_NO_CIRCUIT, "useCircuit()");
         refused(UNSUPPORTED, "setFamily(3, 1, 4) 4; ", "useCircuit()");
         holds("setFamily(2, 1, 4) 4; useCircuit() 4; ", holding("0123"));
     }

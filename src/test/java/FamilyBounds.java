@@ -1,5 +1,8 @@
 /** Promises 1 to 4: a new object, setFamily, elementCount, elementAt. */
 final class FamilyBounds extends Bounds {
+    private static final String REFUSED_FAMILY = "Throws `IllegalArgumentException` if an argument is out of range, if the kind is not 0 and "
+            + "n is greater than the number of symbols, or if the family would have more than 200 elements";
+
     @Sentence({"Creates a workbench with the family of words of length 2 over 2 symbols and an empty sequence.",
         "A new object has the words with n = 2 and k = 2 as its family."})
     static void promise01WordsOfLength2Over2Symbols() {
@@ -24,9 +27,7 @@ final class FamilyBounds extends Bounds {
         holds("feed('1') 1; ");
     }
 
-    @Sentence({"`kind`: the kind, 0 to 3", "Sets the family.",
-        "Throws `IllegalArgumentException` if an argument is out of range, if the kind is not 0 and n is greater than the number of "
-        + "symbols, or if the family would have more than 200 elements"})
+    @Sentence({"`kind`: the kind, 0 to 3", "Sets the family.", REFUSED_FAMILY})
     static void promise02KindOutOfRange() {
         holds("setFamily(0, 1, 1) 1; ", elements("0"));
         holds("setFamily(3, 1, 1) 1; ", elements("0"), throwing("vertexCount()", UNSUPPORTED));
@@ -36,9 +37,7 @@ final class FamilyBounds extends Bounds {
     }
 
     @Sentence({"`n`: the window length, 1 to 5",
-        "A family has a kind, a window length n from 1 to 5 and a number k of symbols from 1 to 8.",
-        "Throws `IllegalArgumentException` if an argument is out of range, if the kind is not 0 and n is greater than the number of "
-        + "symbols, or if the family would have more than 200 elements"})
+        "A family has a kind, a window length n from 1 to 5 and a number k of symbols from 1 to 8.", REFUSED_FAMILY})
     static void promise02LengthOutOfRange() {
         holds("setFamily(0, 1, 8) 8; setFamily(0, 5, 1) 1; ", elements("00000"));
         holds("setFamily(1, 1, 8) 1; setFamily(1, 5, 8) 120; setFamily(2, 1, 5) 5; setFamily(2, 5, 5) 120; setFamily(3, 1, 8) 8; "
@@ -50,9 +49,7 @@ final class FamilyBounds extends Bounds {
     }
 
     @Sentence({"`symbols`: the number k of symbols, 1 to 8",
-        "A family has a kind, a window length n from 1 to 5 and a number k of symbols from 1 to 8.",
-        "Throws `IllegalArgumentException` if an argument is out of range, if the kind is not 0 and n is greater than the number of "
-        + "symbols, or if the family would have more than 200 elements"})
+        "A family has a kind, a window length n from 1 to 5 and a number k of symbols from 1 to 8.", REFUSED_FAMILY})
     static void promise02NumberOfSymbolsOutOfRange() {
         holds("setFamily(0, 1, 1) 1; setFamily(0, 1, 8) 8; setFamily(0, 5, 1) 1; setFamily(0, 2, 8) 64; ");
         holds("setFamily(1, 1, 1) 1; setFamily(1, 1, 8) 1; setFamily(2, 1, 1) 1; setFamily(2, 1, 8) 8; setFamily(3, 1, 1) 1; "
@@ -63,9 +60,7 @@ final class FamilyBounds extends Bounds {
         refused(ARGUMENT, LIVED, each("setFamily(3, 1, #)", 0, 9));
     }
 
-    @Sentence({"For the kinds 1, 2 and 3, n is at most k.",
-        "Throws `IllegalArgumentException` if an argument is out of range, if the kind is not 0 and n is greater than the number of "
-        + "symbols, or if the family would have more than 200 elements"})
+    @Sentence({"For the kinds 1, 2 and 3, n is at most k.", REFUSED_FAMILY})
     static void promise02LengthGreaterThanNumberOfSymbols() {
         int factorial = 1;
         for (int n = 2; n <= 5; n++) {
@@ -81,9 +76,7 @@ final class FamilyBounds extends Bounds {
         holds("setFamily(0, 2, 1) 1; setFamily(0, 5, 1) 1; setFamily(0, 3, 2) 8; setFamily(0, 5, 2) 32; setFamily(0, 4, 3) 81; ");
     }
 
-    @Sentence({"A family has at most 200 elements.",
-        "Throws `IllegalArgumentException` if an argument is out of range, if the kind is not 0 and n is greater than the number of "
-        + "symbols, or if the family would have more than 200 elements"})
+    @Sentence({"A family has at most 200 elements.", REFUSED_FAMILY})
     static void promise02MoreThan200Elements() {
         holds("setFamily(0, 3, 5) 125; setFamily(0, 4, 3) 81; setFamily(0, 5, 2) 32; ");
         refused(ARGUMENT, LIVED, "setFamily(0, 3, 6)", "setFamily(0, 4, 4)", "setFamily(0, 5, 3)", "setFamily(0, 5, 8)");
