@@ -1135,7 +1135,9 @@ public final class UniversalCycles {
                 isRaised = false;
                 for (int start = 0; start < row.size; start++) {
                     int code = family.elements.codes[graph.circuit[start]];
-                    isRaised |= raiseWindow(code, family.places, start);
+                    if (raiseWindow(code, family.places, start)) {
+                        isRaised = true;
+                    }
                 }
                 if (highestSymbol() >= family.symbols) {
                     return false;

@@ -30,11 +30,31 @@ final class Document {
         return result;
     }
 
-    /** ExamplesTest has the examples, call by call. */
+    /** The examples of the description: their calls with results, by their titles. */
+    static Map<String, String> examples() throws IOException {
+        String text = Files.readString(PATH);
+        Map<String, String> result = new TreeMap<>();
+        for (String paragraph : text.substring(startOfExamples(text), endOfExamples(text)).split("\n\\s*\n")) {
+            String example = paragraph.trim().replaceAll("\\s+", " ");
+            int colon = example.indexOf(": ");
+            if (colon > 0 && example.endsWith(".")) {
+                result.put(example.substring(0, colon), example.substring(colon + 2, example.length() - 1));
+            }
+        }
+        return result;
+    }
+
+    private static int startOfExamples(String text) {
+        return text.indexOf("\nExamples. ");
+    }
+
+    private static int endOfExamples(String text) {
+        return text.indexOf("\nThe constants:");
+    }
+
+    /** ExamplesTest runs the examples. */
     private static String withoutExamples(String body) {
-        int from = body.indexOf("\nExamples. ");
-        int to = body.indexOf("\nThe constants:");
-        return body.substring(0, from) + body.substring(to);
+        return body.substring(0, startOfExamples(body)) + body.substring(endOfExamples(body));
     }
 
     private static List<String> sentencesOf(String body) {

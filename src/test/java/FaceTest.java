@@ -66,7 +66,19 @@ public final class FaceTest {
                 Check.due("the face", inner + "." + method.getName() + " bears a public name", String.valueOf(isTaken), "false");
             }
         }
+        limits(type);
+        for (Class<?> inner : type.getDeclaredClasses()) {
+            limits(inner);
+        }
         Check.due("rule 11", "at most twelve classes", String.valueOf(type.getDeclaredClasses().length + 1 <= 12), "true");
+    }
+
+    private static void limits(Class<?> type) {
+        long fields = Arrays.stream(type.getDeclaredFields()).filter(field -> !Modifier.isStatic(field.getModifiers())).count();
+        Check.due("rule 11", type + " has at most twenty fields", String.valueOf(fields <= 20), "true");
+        for (Method method : type.getDeclaredMethods()) {
+            Check.due("rule 11", method + " takes at most seven", String.valueOf(method.getParameterCount() <= 7), "true");
+        }
     }
 
     private static void language() throws IOException {
